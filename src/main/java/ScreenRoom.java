@@ -11,12 +11,8 @@ public final class ScreenRoom {
     private static final int LAST_HOUR = 9900;
     private static final int TIMES_DRAWN = 10;
 
-    private final int[] tape = new int[LONGEST_TAPE];
-    private int tapeLength = 0;
-    // A text that turns out faulty must leave the standing one as it is: it is read into the spare one.
+    private final Parser parser = new Parser();
     private Text text = new Text();
-    private Text spare = new Text();
-    private final Parser parser = new Parser(tape, spare);
     private final Room now = new Room();
     private final Room trial = new Room();
     private final Room image = new Room();
@@ -33,32 +29,22 @@ public final class ScreenRoom {
     }
 
     public int feed(int a, int b, int c, int d, int e) {
-        if (tapeLength + FED_AT_ONCE > LONGEST_TAPE) return NONE;
-        putBytes(a);
-        putBytes(b);
-        putBytes(c);
-        putBytes(d);
-        putBytes(e);
-        return tapeLength;
-    }
-
-    private void putBytes(int four) {
-        for (int shift = 24; shift >= 0; shift -= 8) {
-            if (tapeLength < LONGEST_TAPE) {
-                tape[tapeLength] = (four >> shift) & 255;
-                tapeLength++;
-            }
-        }
+        Reader tape = parser.reader;
+        if (tape.fed + FED_AT_ONCE > LONGEST_TAPE) return NONE;
+        tape.putBytes(a);
+        tape.putBytes(b);
+        tape.putBytes(c);
+        tape.putBytes(d);
+        tape.putBytes(e);
+        return tape.fed;
     }
 
     public int text(int n) {
-        if (n < 0 || n > tapeLength) return NOT_SO;
-        boolean sound = parser.parse(n, spare);
-        tapeLength = 0;
+        if (n < 0 || n > parser.reader.fed) return NOT_SO;
+        boolean sound = parser.parse(n);
+        parser.reader.fed = 0;
         if (!sound) return NONE;
-        Text told = spare;
-        spare = text;
-        text = told;
+        text = parser.exchange(text);
         now.copyFrom(text.start);
         imageKept = false;
         history.clear();
@@ -974,7 +960,7 @@ public final class ScreenRoom {
         }
     }
 
-    /** Takes the tokens of a text, one after another. */
+    /** The tape, and the tokens of a text on it, one after another. */
     private static final class Reader {
         static final int END = 0;
         static final int BAD = 1;
@@ -1017,7 +1003,8 @@ public final class ScreenRoom {
             "room  screenfolk  carry step  moth  seed  law   ageingpay   cut   or    and   not   seasonfrom  age   done  near  whole hour  ";
         private static final int TOO_GREAT = 1000000;
 
-        private final int[] bytes;
+        private final int[] bytes = new int[LONGEST_TAPE];
+        int fed = 0;
         private final int[] wordCode = new int[WORD_COUNT];
         private int length = 0;
         private int at = 0;
@@ -1025,8 +1012,7 @@ public final class ScreenRoom {
         int value = 0;
         int place = 0;
 
-        Reader(int[] bytes) {
-            this.bytes = bytes;
+        Reader() {
             for (int word = 0; word < WORD_COUNT; word++) {
                 int code = 0;
                 for (int k = 0; k < LONGEST_WORD; k++) {
@@ -1037,8 +1023,17 @@ public final class ScreenRoom {
             }
         }
 
+        void putBytes(int four) {
+            for (int shift = 24; shift >= 0; shift -= 8) {
+                if (fed < LONGEST_TAPE) {
+                    bytes[fed] = (four >> shift) & 255;
+                    fed++;
+                }
+            }
+        }
+
         void start(int byteCount) {
-            length = Math.min(byteCount, bytes.length);
+            length = Math.min(byteCount, fed);
             at = 0;
             next();
         }
@@ -1128,8 +1123,9 @@ public final class ScreenRoom {
 
         int faultKind = 0;
         int faultPlace = NONE;
-        private final Reader reader;
-        private Text into;
+        final Reader reader = new Reader();
+        // A faulty text must leave the standing one as it is: so it is read into a spare one.
+        private Text into = new Text();
         private int number = 0;
         private int numberPlace = 0;
         // Signs of a law that wait for their right side, and brackets that are open.
@@ -1141,13 +1137,14 @@ public final class ScreenRoom {
         private boolean operandDue = true;
         private boolean notMayStand = true;
 
-        Parser(int[] tape, Text first) {
-            reader = new Reader(tape);
-            into = first;
+        /** Gives the text that was read and takes the one that isn't used any more as the spare one. */
+        Text exchange(Text old) {
+            Text read = into;
+            into = old;
+            return read;
         }
 
-        boolean parse(int byteCount, Text target) {
-            into = target;
+        boolean parse(int byteCount) {
             into.clear();
             faultKind = 0;
             faultPlace = NONE;
