@@ -316,7 +316,7 @@ public final class ScreenRoom {
             trial.screens.refresh();
             boolean alike = true;
             for (int hour = 1; hour <= last && alike; hour++) {
-                Hours.pass(trial, text, 1, Hours.AS_IT_GOES);
+                Hours.pass(trial, text, 1, Hours.AS_IT_GOES | Hours.NO_FOLK);
                 alike = sightings.agree(trial.screens, hour);
             }
             if (alike) bits |= 1 << season;
@@ -331,7 +331,8 @@ public final class ScreenRoom {
         for (int k = 0; k < TIMES_DRAWN; k++) {
             trial.copyFrom(now);
             trial.number = number;
-            Hours.pass(trial, text, n, Hours.DRAWN);
+            // Where a screen stands is nothing to the moths.
+            Hours.pass(trial, text, n, Hours.DRAWN | Hours.NO_CARRYING | Hours.NO_FOLK);
             number = trial.number;
             if (trial.screens.wholeLeaves >= whole) times++;
         }
@@ -683,19 +684,22 @@ public final class ScreenRoom {
 
     /** What an hour does to a room, by a text. */
     private static final class Hours {
+        // Bits of how hours pass; without DRAWN it is as it goes.
         static final int AS_IT_GOES = 0;
         static final int DRAWN = 1;
         static final int NO_MOTHS = 2;
         static final int NO_CARRYING = 4;
         static final int NO_STEPS = 8;
+        // For what is asked of screens alone: neither steps nor work change them.
+        static final int NO_FOLK = 16;
         private static final int OLDEST = 999;
         private static final int MOST_DONE = 9999;
 
         static void pass(Room room, Text text, int n, int how) {
             for (int k = 0; k < n; k++) {
                 if ((how & NO_CARRYING) == 0) carryAll(room, text);
-                if ((how & NO_STEPS) == 0) stepAll(room, text);
-                payAll(room, text);
+                if ((how & (NO_STEPS | NO_FOLK)) == 0) stepAll(room, text);
+                if ((how & NO_FOLK) == 0) payAll(room, text);
                 if ((how & NO_MOTHS) == 0 && room.hour % 10 == 9) mothsCome(room, text, (how & DRAWN) != 0);
                 room.hour++;
             }
@@ -703,18 +707,20 @@ public final class ScreenRoom {
 
         private static void carryAll(Room room, Text text) {
             Screens screens = room.screens;
+            boolean changed = false;
             for (int k = 0; k < text.carries; k++) {
                 int screen = text.carryScreen[k];
                 if (text.carryHour[k] == room.hour && screens.isThere(screen)) {
                     int down = screens.down[screen];
                     if (screens.fits(screen, text.carryRow[k], text.carryColumn[k], down)) {
                         screens.place(screen, text.carryRow[k], text.carryColumn[k], down);
-                        screens.refresh();
+                        changed = true;
                     } else {
                         room.refused++;
                     }
                 }
             }
+            if (changed) screens.refresh();
         }
 
         private static void stepAll(Room room, Text text) {
@@ -752,16 +758,18 @@ public final class ScreenRoom {
 
         private static void mothsCome(Room room, Text text, boolean drawn) {
             Screens screens = room.screens;
+            boolean changed = false;
             for (int screen = 0; screen < screens.count; screen++) {
                 if (screens.isThere(screen) && screens.whole[screen] != 0) {
                     long law = cutLaw(room, text, screen);
                     long odds = law == Laws.ERROR ? text.moth : within(law, 100);
                     if (drawn ? mothDrawn(room, odds) : odds >= 50) {
                         screens.cutFirstWhole(screen);
-                        screens.refresh();
+                        changed = true;
                     }
                 }
             }
+            if (changed) screens.refresh();
         }
 
         private static boolean mothDrawn(Room room, long odds) {
@@ -1157,14 +1165,10 @@ public final class ScreenRoom {
             return true;
         }
 
-        private boolean refuse(int fault, int place) {
-            faultKind = fault;
-            faultPlace = place;
-            return false;
-        }
-
         private boolean refuseHere(int fault) {
-            return refuse(fault, reader.place);
+            faultKind = fault;
+            faultPlace = reader.place;
+            return false;
         }
 
         private boolean takeLine() {
@@ -1230,7 +1234,9 @@ public final class ScreenRoom {
             if (!takeNumber(0, 1)) return false;
             screens.down[screen] = number;
             if (!screens.fits(screen, screens.row[screen], screens.column[screen], number)) {
-                return refuse(DOES_NOT_FIT, numberPlace);
+                refuseHere(DOES_NOT_FIT);
+                faultPlace = numberPlace;
+                return false;
             }
             screens.present |= 1 << screen;
             screens.count++;
@@ -1333,14 +1339,13 @@ public final class ScreenRoom {
             operandDue = true;
             notMayStand = true;
             for (int k = 0; k <= LONGEST_TAPE; k++) {
-                if (operandDue) {
-                    if (!takeOperand()) return false;
-                } else if (reader.kind == Reader.SEMICOLON && open == 0) {
+                if (!operandDue && open == 0 && reader.kind == Reader.SEMICOLON) {
                     release(1);
                     return true;
-                } else if (!takeBehindOperand()) {
-                    return false;
                 }
+                boolean taken = operandDue ? takeOperand() : takeBehindOperand();
+                if (!taken) return false;
+                reader.next();
             }
             return refuseHere(WRONG_TOKEN);
         }
@@ -1360,7 +1365,6 @@ public final class ScreenRoom {
                 into.laws.put(isNumber ? kind : Reader.SEASON, isNumber ? reader.value : kind - Reader.SEASON);
                 operandDue = false;
             }
-            reader.next();
             return true;
         }
 
@@ -1370,13 +1374,17 @@ public final class ScreenRoom {
             open++;
             compared &= ~(1 << open);
             notMayStand = true;
-            reader.next();
             return true;
         }
 
         private boolean takeBehindOperand() {
             int kind = reader.kind;
-            if (kind == Reader.CLOSE) return takeClose();
+            if (kind == Reader.CLOSE && open > 0) {
+                release(1);
+                waitingCount = Math.max(0, waitingCount - 1);
+                open--;
+                return true;
+            }
             int rank = rankOf(kind);
             boolean compares = rank == RANK_OF_COMPARING;
             if (rank == 0 || kind == Reader.NOT) return refuseHere(WRONG_TOKEN);
@@ -1388,16 +1396,6 @@ public final class ScreenRoom {
             await(kind);
             operandDue = true;
             notMayStand = rank < RANK_OF_COMPARING;
-            reader.next();
-            return true;
-        }
-
-        private boolean takeClose() {
-            if (open == 0) return refuseHere(WRONG_TOKEN);
-            release(1);
-            waitingCount = Math.max(0, waitingCount - 1);
-            open--;
-            reader.next();
             return true;
         }
 

@@ -103,10 +103,47 @@ public final class FaceTests {
         }
     }
 
+    private static int callAll(ScreenRoom x) {
+        int sum = 0;
+        byte[] text = ("room 8 8;screen a 0 0 0 4 0;screen b 1 2 0 4 0;screen c 2 4 0 4 0;screen d 3 6 0 4 0;screen e 0 0 7 4 1;"
+            + "folk x 1 1 1 1;folk y 2 7 7 2;carry a 1 1 1;step x 2 2;moth 60;seed 9;"
+            + "law pay (season+from)*2-near<=whole and not hour or 2;").getBytes(java.nio.charset.StandardCharsets.ISO_8859_1);
+        int[] five = new int[5];
+        for (int at = 0; at < text.length; at += 20) {
+            for (int k = 0; k < 20; k++) five[k / 4] = five[k / 4] << 8 | (at + k < text.length ? text[at + k] : 32);
+            sum += x.feed(five[0], five[1], five[2], five[3], five[4]);
+        }
+        sum += x.text(text.length) + x.fault(0) + x.named(0, 1) + x.folk(0, 5) + x.screen(0, 5) + x.season(1, 1) + x.leaf(0, 0);
+        sum += (int) x.law(1, 0) + (x.carry(0, 1, 2) ? 1 : 0) + (x.turn(4) ? 1 : 0) + x.step(0, 2) + x.undo() + x.keep() + x.go(50);
+        sum += x.mend(0) + x.ahead(99, 3, 0) + x.steps(0, 7, 7) + x.young(0, 7, 7) + x.stand(0, 3) + x.ofSeason(1) + x.worth(1);
+        sum += x.rests(0, 1) + x.rest(0, 1, 0) + (int) x.holds(0, 6, 1) + x.meet(0, 1, 1) + x.needed() + x.nextTo(0);
+        sum += x.see(40, 1, 1, 1, true) + x.out(0) + (x.known(1) ? 1 : 0) + x.painted(0) + x.chance(7, 99, 3) + x.tried(2, 0, 99);
+        return sum + x.back() + x.count(11);
+    }
+
+    /** All calls of a run live in one room, so a call makes next to nothing: all rows are made with the object. */
+    private static void calls() {
+        com.sun.management.ThreadMXBean threads =
+            (com.sun.management.ThreadMXBean) java.lang.management.ManagementFactory.getThreadMXBean();
+        long self = Thread.currentThread().getId();
+        long before = threads.getThreadAllocatedBytes(self);
+        ScreenRoom room = new ScreenRoom();
+        long made = threads.getThreadAllocatedBytes(self) - before;
+        int sum = callAll(room);
+        before = threads.getThreadAllocatedBytes(self);
+        for (int k = 0; k < 10; k++) sum += callAll(room);
+        long used = threads.getThreadAllocatedBytes(self) - before;
+        System.out.println("an object takes " + made + " bytes, ten rounds of all calls make " + used + " (" + sum + ")");
+        say(made < 100000, "what an object takes: " + made);
+        // The rounds' own text and row.
+        say(used < 10 * 3000, "what calls make: " + used);
+    }
+
     public static void main(String[] args) throws IOException {
         face();
         inside();
         source();
+        calls();
         System.out.println(wrong == 0 ? "the face and the rules are as due" : wrong + " not as due");
         if (wrong != 0) System.exit(1);
     }
