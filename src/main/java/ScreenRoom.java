@@ -1744,14 +1744,9 @@ public final class ScreenRoom {
             int best = all;
             for (int bits = 0; bits < all; bits++) {
                 boolean does = (workersOf[bits] & wanted) == wanted;
-                if (does && isFewer(bits, best)) best = bits;
+                if (does && Integer.bitCount(bits) < Integer.bitCount(best)) best = bits;
             }
             return best;
-        }
-
-        private static boolean isFewer(int bits, int best) {
-            int more = Integer.bitCount(bits) - Integer.bitCount(best);
-            return more < 0 || (more == 0 && bits < best);
         }
 
         /** Bit of each pair of turns that is a rest; the screens are left turned, so they must be a copy. */

@@ -51,6 +51,15 @@ public final class PromiseTests {
         due("place in " + text, room.fault(1), place);
     }
 
+    /** The tape goes on behind the text: what is there is none of it. */
+    private static void faultyFirst(String tape, int n, int place) {
+        ScreenRoom room = new ScreenRoom();
+        feed(room, tape);
+        due("first " + n + " of " + tape, room.text(n), -1);
+        due("fault of first " + n + " of " + tape, room.fault(0), 1);
+        due("place in first " + n + " of " + tape, room.fault(1), place);
+    }
+
     private static int letters(String name) {
         int code = 0;
         for (int k = 0; k < 6; k++) code = code * 32 + (k < name.length() ? name.charAt(k) - 'a' + 1 : 0);
@@ -225,6 +234,10 @@ public final class PromiseTests {
         faulty("law pay 1 and;", 1, 13);
         faulty("law pay 1", 1, 9);
         faulty("law pay 1+", 1, 10);
+        faulty("law pay 1<=", 1, 11);
+        faultyFirst("law pay 1<=2;", 10, 10);
+        faultyFirst("rooms", 4, 4);
+        faultyFirst("moth 12;", 6, 6);
         faulty("law pay seasons;", 1, 8);
         told("law pay (1<2)<3;");
         told("law pay 1<2 and 3<4 or 5<>6;");
@@ -244,6 +257,11 @@ public final class PromiseTests {
         faulty("screen a 0 0 0 1 2;", 2, 17);
         faulty("screen a 0 0 3 4 2;", 2, 17);
         faulty("seed 100000;", 2, 5);
+        faulty("screen a 4 0 0 1 0;", 2, 9);
+        faulty("folk a 0 0 0 4;", 2, 13);
+        faulty("folk a 100 0 0 0;", 2, 7);
+        faulty("screen a 0 0 0 1 0;carry a 0 8 0;", 2, 29);
+        faulty("screen a 0 0 0 1 0;carry a 100 0 0;", 2, 27);
         faulty("moth 101;", 2, 5);
         faulty("screen a 0 0 0 1 0;carry a 0 0 8;", 2, 31);
         faulty("law pay 10000;", 2, 8);
@@ -387,6 +405,9 @@ public final class PromiseTests {
         due("unequal", pay("2<>2"), 0);
         due("at least", pay("2>=3"), 0);
         due("more", pay("3>2"), 1);
+        due("more", pay("2>2"), 0);
+        due("just 10 to the 12", pay("1000*1000*1000*999+1000*1000*1000"), 1000000000000L);
+        due("just that below 0", pay("0-1000*1000*1000*999-1000*1000*1000"), -1000000000000L);
         due("sums ahead of comparing", pay("1+1=2"), 1);
         due("not behind comparing", pay("not 1=2"), 1);
         due("not of a number", pay("not 7"), 0);
@@ -998,6 +1019,17 @@ public final class PromiseTests {
         room.go(1);
         int[] then = {2, 3, 3, 4, 3, 1, 4, 1, 2, 35, 8, 1, 0, 0, 0};
         for (int what = 0; what < then.length; what++) due("count " + what, room.count(what), then[what]);
+        ScreenRoom full = told("screen a 0 0 0 1 0;screen b 0 0 1 1 0;screen c 0 0 2 1 0;screen d 0 0 3 1 0;screen e 0 1 0 4 0;"
+            + "folk a 1 0 0 0;folk b 1 0 1 0;folk c 1 3 3 0;folk d 1 1 0 1;folk e 1 2 0 0;folk f 1 2 2 0;");
+        int[] most = {5, 6, 4, 4, 0, 0, 8, 0, 0, 6, 8, 5, 0, 0, 0};
+        for (int what = 0; what < most.length; what++) due("full count " + what, full.count(what), most[what]);
+        full.go(3);
+        due("done by five", full.count(8), 15);
+        due("turned", full.turn(4), false);
+        due("carried", full.carry(4, 3, 0), true);
+        due("needed", full.needed(), 1);
+        due("stand", full.stand(4, 3), 5);
+        due("worth", full.worth(4) + full.worth(3) + full.worth(2) + full.worth(1) + full.worth(0), 120 * 5);
         due("other", room.count(15), -1);
         due("other", room.count(-1), -1);
     }
