@@ -1,91 +1,5 @@
-import java.util.NoSuchElementException;
-
 /** Each promise of the document, by inputs and answers worked out by hand. */
-public final class PromiseTests {
-    private static int wrong = 0;
-    private static int asked = 0;
-    private static String about = "";
-
-    private static void due(String call, long got, long want) {
-        asked++;
-        if (got != want) {
-            wrong++;
-            System.out.println(about + ": " + call + " answered " + got + ", due is " + want);
-        }
-    }
-
-    private static void due(String call, boolean got, boolean want) {
-        due(call, got ? 1 : 0, want ? 1 : 0);
-    }
-
-    private static int bytes(String text, int at) {
-        int four = 0;
-        for (int k = 0; k < 4; k++) four = four << 8 | (at + k < text.length() ? text.charAt(at + k) & 255 : 32);
-        return four;
-    }
-
-    private static void feed(ScreenRoom room, String text) {
-        for (int at = 0; at < text.length(); at += 20) {
-            room.feed(bytes(text, at), bytes(text, at + 4), bytes(text, at + 8), bytes(text, at + 12), bytes(text, at + 16));
-        }
-    }
-
-    private static int tell(ScreenRoom room, String text) {
-        feed(room, text);
-        return room.text(text.length());
-    }
-
-    private static ScreenRoom told(String text) {
-        ScreenRoom room = new ScreenRoom();
-        int lines = tell(room, text);
-        int want = 0;
-        for (int k = 0; k < text.length(); k++) if (text.charAt(k) == ';') want++;
-        due("lines of " + text, lines, want);
-        return room;
-    }
-
-    private static void faulty(String text, int fault, int place) {
-        ScreenRoom room = new ScreenRoom();
-        due("text " + text, tell(room, text), -1);
-        due("fault of " + text, room.fault(0), fault);
-        due("place in " + text, room.fault(1), place);
-    }
-
-    /** The tape goes on behind the text: what is there is none of it. */
-    private static void faultyFirst(String tape, int n, int place) {
-        ScreenRoom room = new ScreenRoom();
-        feed(room, tape);
-        due("first " + n + " of " + tape, room.text(n), -1);
-        due("fault of first " + n + " of " + tape, room.fault(0), 1);
-        due("place in first " + n + " of " + tape, room.fault(1), place);
-    }
-
-    private static int letters(String name) {
-        int code = 0;
-        for (int k = 0; k < 6; k++) code = code * 32 + (k < name.length() ? name.charAt(k) - 'a' + 1 : 0);
-        return code;
-    }
-
-    /** 0: no throw; 1 IndexOutOfBoundsException; 2 NoSuchElementException; 3 another. */
-    private static int thrown(ScreenRoom room, int folk, int what) {
-        try {
-            room.folk(folk, what);
-            return 0;
-        } catch (IndexOutOfBoundsException e) {
-            return 1;
-        } catch (NoSuchElementException e) {
-            return 2;
-        } catch (RuntimeException e) {
-            return 3;
-        }
-    }
-
-    private static String repeated(String part, int times) {
-        StringBuilder all = new StringBuilder();
-        for (int k = 0; k < times; k++) all.append(part);
-        return all.toString();
-    }
-
+public final class PromiseTests extends Due {
     // Row 0: AA.. row 1: ...B row 2: ...B; A spring 0, B autumn 2.
     private static final String TWO = "room 3 4;screen a 0 0 0 2 0;screen b 2 1 3 2 1;";
     private static final String TWO_FOLK = TWO + "folk x 10 1 0 0;folk y 20 2 2 2;";
@@ -1063,7 +977,6 @@ public final class PromiseTests {
         undone();
         images();
         counts();
-        System.out.println(asked + " answers, " + wrong + " not as due");
-        if (wrong != 0) System.exit(1);
+        end();
     }
 }
