@@ -319,6 +319,10 @@ public final class CallBoundaryTests extends Due {
         due("b", room.screen(1, 1) * 10 + room.screen(1, 2), 3);
         due("not refused", room.count(7), 0);
         due("onto folk", room.carry(0, 1, 0), true);
+        due("its leaf is there", room.leaf(1, 1), 0);
+        due("no leaf is where it was", room.leaf(2, 1), -2);
+        due("b's leaf", room.leaf(0, 3), 1);
+        due("season", room.season(2, 3), 2);
         about = "12: it doesn't fit so";
         for (int row = 0; row < 4; row++) {
             for (int leaves = 1; leaves <= 4; leaves++) {
@@ -469,6 +473,20 @@ public final class CallBoundaryTests extends Due {
         eaten.go(10);
         due("cut", eaten.steps(0, 0, 2), 2);
         due("cut", eaten.young(0, 0, 2), 0);
+        about = "18: of all ways there";
+        ScreenRoom star = told("room 3 3;screen a 0 0 0 1 0;screen b 1 2 2 1 0;folk x 0 1 1 0;");
+        due("all of season 0 but three", star.ofSeason(1), 3);
+        due("up", star.young(0, 0, 1), 0);
+        due("left", star.young(0, 1, 0), 0);
+        due("right", star.young(0, 1, 2), 1);
+        due("down", star.young(0, 2, 1), 1);
+        due("two to the left of the wall", told("room 1 3;folk x 0 0 2 0;").young(0, 0, 0), 0);
+        // Straight on is one season on and back, 1 + 3; round it costs nothing.
+        ScreenRoom round = told("room 3 5;screen a 0 0 0 1 0;screen b 0 0 4 1 0;screen c 1 2 2 1 0;folk x 0 2 4 0;");
+        due("round it, to the left", round.young(0, 2, 0), 0);
+        ScreenRoom through = told("room 1 7;screen a 0 0 0 1 0;screen b 3 0 6 1 0;folk x 0 0 1 0;folk y 0 0 5 0;");
+        due("0 to 3", through.young(0, 0, 5), 3);
+        due("3 to 0", through.young(1, 0, 1), 1);
         about = "18: modulo 4";
         for (int from = 0; from < 4; from++) {
             for (int to = 0; to < 4; to++) {
@@ -501,6 +519,15 @@ public final class CallBoundaryTests extends Due {
         ScreenRoom row = told("room 2 4;screen a 1 0 0 1 0;screen b 2 1 3 1 0;folk x 0 0 2 2;");
         due("b as near as a goes to a", row.stand(1, 0) * 100 + row.stand(1, 1) * 10 + row.stand(1, 2), 10);
         due("b has x", row.stand(1, 3), 1);
+        about = "19: as far as another: the first one's SEASON";
+        ScreenRoom tie = told("room 1 5;screen a 0 0 0 1 0;screen b 1 0 4 1 0;folk x 0 0 2 0;");
+        due("a two from x, as b is", tie.stand(0, 1), 0);
+        ScreenRoom second = told("room 1 5;screen a 0 0 0 1 0;screen b 1 0 4 1 0;folk x 0 0 3 0;");
+        due("a one from x, as b is", second.stand(0, 1), 2);
+        ScreenRoom behind = told("room 1 5;screen a 0 0 2 1 0;screen b 1 0 4 1 0;folk x 0 0 3 1;");
+        due("b nearer than a only in x's cell", behind.stand(1, 1), 3);
+        ScreenRoom leaves = told("room 1 5;screen a 0 0 2 1 0;screen b 1 0 3 1 0;folk x 0 0 3 1;");
+        due("where it stands now is no more, if it stood elsewhere", leaves.stand(1, 1), 3);
         about = "19: none is WHOLE";
         ScreenRoom bare = told("room 1 2;screen a 1 0 1 1 0;folk x 0 0 0 1;moth 100;");
         bare.go(10);
@@ -738,6 +765,16 @@ public final class CallBoundaryTests extends Due {
         due("by four", twice.painted(0), 15);
         twice.known(1);
         due("by one", twice.painted(0), 4);
+        about = "3: nothing SEEN then";
+        ScreenRoom stale = told("screen a 0 0 0 1 0;");
+        for (int k = 0; k < 24; k++) stale.see(1, 3, 3, 2, true);
+        due("seen", stale.painted(0), 4);
+        due("again", tell(stale, "screen a 0 0 0 1 0;"), 1);
+        due("nothing", stale.painted(0), 15);
+        due("one", stale.see(1, 3, 3, 1, true), 0);
+        due("that one", stale.painted(0), 2);
+        due("struck", stale.out(0), 1);
+        due("nothing is left", stale.painted(0), 15);
         about = "as it goes from the TEXT on, nothing done by call";
         ScreenRoom called = told("room 1 8;screen a 0 0 0 1 0;screen b 1 0 4 1 0;");
         called.see(1, 0, 1, 2, true);
@@ -818,6 +855,11 @@ public final class CallBoundaryTests extends Due {
         due("as it goes", eaten.tried(0, 0, 99), 0);
         due("whole", eaten.tried(5, 0, 99), 10);
         due("no moths, but cut", eaten.tried(1, 0, 99), 0);
+        ScreenRoom counted = told("screen a 0 0 0 3 0;folk x 0 1 1 0;law pay whole*10;law cut 100*(hour<10);");
+        counted.go(11);
+        due("two are whole", counted.tried(0, 0, 1), 20);
+        due("three are, no more", counted.tried(5, 0, 1), 30);
+        due("now two", counted.count(6), 2);
         about = "33: 2 neither its leaves nor what is carried of it";
         // b stands where x would step, and is carried onto where a goes.
         ScreenRoom gone = told("room 1 6;screen a 0 0 0 1 0;screen b 1 0 2 1 0;folk x 0 0 1 0;step x 0 1;carry b 1 0 5;carry a 2 0 5;");
@@ -846,6 +888,33 @@ public final class CallBoundaryTests extends Due {
             due("none", turned.undo(), -1);
             due("as it was " + kept + " ahead", turned.screen(0, 4), (turns - kept) % 2);
         }
+        about = "34: each of the latest 20 is undone";
+        ScreenRoom carried = told("room 8 8;screen a 0 0 0 1 0;");
+        for (int k = 1; k <= 25; k++) due("carried", carried.carry(0, k / 8, k % 8), true);
+        for (int k = 24; k >= 5; k--) {
+            due("left", carried.undo(), k - 5);
+            due("where it was", carried.screen(0, 1) * 8 + carried.screen(0, 2), k);
+            due("its leaf", carried.leaf(k / 8, k % 8), 0);
+        }
+        due("none", carried.undo(), -1);
+        ScreenRoom walked = told("room 4 4;screen a 0 0 0 1 0;screen b 1 3 3 1 0;folk v 1 0 1 0;folk w 2 0 2 0;folk x 3 0 3 0;folk y 4 1 0 0;"
+            + "folk z 5 1 1 0;folk last 9 3 0 0;law ageing 7;");
+        due("right", walked.step(5, 1), 16);
+        due("up", walked.step(5, 0), 23);
+        due("undone", walked.undo(), 1);
+        due("age", walked.folk(5, 0), 16);
+        due("row", walked.folk(5, 1), 3);
+        due("column", walked.folk(5, 2), 1);
+        due("undone", walked.undo(), 0);
+        due("age", walked.folk(5, 0), 9);
+        due("row", walked.folk(5, 1), 3);
+        due("column", walked.folk(5, 2), 0);
+        ScreenRoom placed = told("room 4 4;screen a 0 0 0 1 0;screen b 1 2 1 2 1;");
+        placed.carry(1, 0, 3);
+        placed.undo();
+        due("row", placed.screen(1, 1), 2);
+        due("column", placed.screen(1, 2), 1);
+        due("down", placed.screen(1, 4), 1);
         about = "34: of all kinds, the latest first";
         ScreenRoom kinds = told(TWO + "moth 100;");
         kinds.go(10);
@@ -898,6 +967,10 @@ public final class CallBoundaryTests extends Due {
         due("nothing to undo", room.undo(), -1);
         due("turned", room.screen(0, 4), 1);
         due("whole", room.count(6), 4);
+        room.turn(0);
+        due("back", room.back(), 0);
+        due("nothing to undo, though no hour went by", room.undo(), -1);
+        due("as in the image", room.screen(0, 4), 1);
         about = "35: in place of one ahead";
         room.go(10);
         due("at 10", room.keep(), 10);

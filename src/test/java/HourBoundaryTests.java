@@ -147,6 +147,11 @@ public final class HourBoundaryTests extends Due {
         ScreenRoom order = told("room 2 2;folk x 5 0 0 0;step x 0 0;step x 0 2;step x 0 0;");
         order.go(1);
         due("refused, down, up", order.count(7) * 10 + order.folk(0, 1), 10);
+        ScreenRoom second = told("room 2 2;folk x 5 0 0 0;folk y 6 0 0 0;step y 0 1;step x 1 2;");
+        second.go(1);
+        due("y alone", second.folk(0, 2) * 10 + second.folk(1, 2), 1);
+        second.go(1);
+        due("then x", second.folk(0, 1) * 10 + second.folk(1, 1), 10);
         about = "(1) ahead of (2)";
         ScreenRoom away = told("room 1 3;screen a 0 0 1 1 0;folk x 5 0 0 0;step x 0 1;carry a 0 0 2;");
         away.go(1);
@@ -418,6 +423,19 @@ public final class HourBoundaryTests extends Due {
         due("-7/-2", value("(0-7)/(0-2)"), 3);
         due("1/2", value("1/2"), 0);
         due("-1/2", value("(0-1)/2"), 0);
+        about = "E: what binds tighter";
+        due("or last", value("1 or 0 and 0"), 1);
+        due("or last", value("0 and 0 or 1"), 1);
+        due("not ahead of and", value("not 0 and 0"), 0);
+        due("comparing ahead of not", value("not 1=2"), 1);
+        due("comparing ahead of and", value("1 and 2=2"), 1);
+        due("sums ahead of comparing", value("2=1+1"), 1);
+        due("products ahead of sums", value("1+2*3-8/4"), 5);
+        due("from the left", value("9-4-3"), 2);
+        due("from the left", value("99/10/2*3"), 12);
+        due("in brackets or", value("(1 or 0) and 0"), 0);
+        due("in brackets or, behind", value("0 and (0 or 1)"), 0);
+        due("in brackets", value("2*(1+(2-(3-4)))"), 8);
         about = "comparisons, and, or, not are 1 or 0 (what isn't 0 is as 1)";
         String[] signs = {"<", "<=", "=", "<>", ">=", ">"};
         int[][] wants = {{1, 0, 0}, {1, 1, 0}, {0, 1, 0}, {1, 0, 1}, {0, 1, 1}, {0, 0, 1}};
@@ -433,6 +451,8 @@ public final class HourBoundaryTests extends Due {
                 due(left + " or " + right, value(left + " or " + right), a | b);
             }
             due("not", value("not " + (a == 1 ? "(0-3)" : "0")), 1 - a);
+            due("not", value("not " + (a == 1 ? "7" : "0")), 1 - a);
+            due("not behind another", value("7+(not " + (a == 1 ? "7" : "0") + ")"), 8 - a);
         }
     }
 

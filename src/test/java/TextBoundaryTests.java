@@ -195,7 +195,13 @@ public final class TextBoundaryTests extends Due {
         faulty("law;", 1, 3);
         faulty("law 1;", 1, 4);
         faulty("law a 1;", 1, 4);
-        faulty("law hour 1;", 1, 4);
+        for (String word : LANGUAGE) {
+            boolean isRule = word.equals("ageing") || word.equals("pay") || word.equals("cut");
+            if (isRule) told("law " + word + " 1;");
+            else faulty("law " + word + " 1;", 1, 4);
+            boolean isLine = "room screen folk carry step moth seed law".contains(word) && !word.equals("or");
+            faulty(word, 1, isLine ? word.length() : 0);
+        }
         faulty("law cuts 1;", 1, 4);
         faulty("law pay pay;", 1, 8);
         faulty("law pay room;", 1, 8);
@@ -410,11 +416,59 @@ public final class TextBoundaryTests extends Due {
                 due("behind the tenth hour " + tenth, room.count(6), wholes[tenth]);
             }
         }
-        due("another text without", tell(none, "moth 100;seed 77;" + SCREEN), 3);
-        due("and without again", tell(none, SCREEN + "law cut 1;"), 2);
-        due("no moth", none.holds(0, 1, 0), 1);
-        none.go(10);
-        due("from 0 on", none.count(6), 0);
+    }
+
+    /** What a text before, sound or faulty, told is nothing to the next one. */
+    private static void nothingStays() {
+        about = "another TEXT";
+        String much = "room 1 8;moth 100;seed 77;screen a 3 0 0 4 0;folk a 9 0 7 3;carry a 0 0 1;step a 0 3;"
+            + "law pay (1<2)+(3);law cut 100;law ageing not 1;";
+        String little = "screen a 0 0 0 2 0;folk x 0 3 3 0;";
+        String[] faults = {"", ";", "moth 1;", "seed 1;", "law pay 1;", "law pay ((1<2", "room 1 1;", "screen a", "step b"};
+        for (String fault : faults) {
+            ScreenRoom room = told(little);
+            for (int k = 0; k < 3; k++) {
+                due("much", tell(room, much), 10);
+                if (!fault.isEmpty()) due("much and " + fault, tell(room, much + fault), -1);
+                due("much again", tell(room, much), 10);
+                due("its knots", room.count(4), 8);
+                due("its law", room.law(1, 0), 4);
+                if (!fault.isEmpty()) due("much and " + fault, tell(room, much + fault), -1);
+                due("little", tell(room, little), 2);
+                due("little again", tell(room, little), 2);
+            }
+            due("rows and columns", room.count(2) * 10 + room.count(3), 44);
+            due("no knots", room.count(4), 0);
+            due("no law", room.law(1, 0), Long.MIN_VALUE);
+            due("no moth", room.holds(0, 6, 1), 1);
+            due("nobody of that name", room.named(1, letters("a")), -1);
+            due("nothing refused ahead", room.ahead(99, 2, 0), 0);
+            room.go(20);
+            due("none cut", room.screen(0, 5), 3);
+            due("nothing carried", room.screen(0, 2), 0);
+            due("nobody stepped", room.folk(0, 2), 3);
+            due("paid by 1", room.folk(0, 4), 20);
+        }
+        about = "another TEXT: seed (0) without";
+        // From 0 on the first number is 0, from 77 on it isn't.
+        String drawn = SCREEN + "law cut 1;";
+        ScreenRoom room = told(drawn);
+        for (int k = 0; k < 3; k++) {
+            due("seed", tell(room, "seed 77;" + drawn), 3);
+            room.go(10);
+            due("from 77 on", room.count(6), 1);
+            for (int again = 0; again < 2; again++) {
+                due("no seed", tell(room, drawn), 2);
+                room.go(10);
+                due("from 0 on", room.count(6), 0);
+            }
+        }
+        about = "KNOTS of many TEXTS";
+        for (int k = 0; k < 6; k++) {
+            due("64 knots", tell(room, SCREEN + FOLK + "law pay not 1" + repeated("+1", 31) + ";"), 3);
+            due("64 knots", room.count(4), 64);
+            due("their law", room.law(1, 0), 0);
+        }
     }
 
     private static void firstFault() {
@@ -448,6 +502,13 @@ public final class TextBoundaryTests extends Due {
         ScreenRoom whole = new ScreenRoom();
         feed(whole, line);
         due("all of it", whole.text(line.length()), 1);
+        faultyFirst("moth 12;", 6, 6);
+        faultyFirst("moth 1;", 6, 6);
+        faultyFirst("rooms", 4, 4);
+        faulty("law pay 1<=", 1, 11);
+        faulty("law pay 1<>", 1, 11);
+        faulty("law pay 1>=", 1, 11);
+        faulty("law pay 1<", 1, 10);
         faulty("room   ", 1, 7);
         faulty("room 4 \n", 1, 8);
         faulty("room 4 4  ", 1, 10);
@@ -588,6 +649,7 @@ public final class TextBoundaryTests extends Due {
         folk();
         carriesAndSteps();
         defaults();
+        nothingStays();
         firstFault();
         lengths();
         brackets();
