@@ -140,6 +140,32 @@ public final class CallBoundaryTests extends Due {
         due("nothing to undo", used.undo(), -1);
         used.see(1, 0, 0, 3, true);
         due("all known", used.painted(0), 8);
+        about = "3: NONE with a FAULT, all stays";
+        for (String faulty : new String[] {";", "room 8 8;moth 101;", "moth 1;seed 1;moth 1;", "folk x 0 0 0 0;carry x 0 0 0;",
+            "screen b 3 0 0 4 0;law pay 1;law cut 1;law ageing 1;screen c 3 1 0 4 0;step c", "screen z 0 3 3 4 0;"}) {
+            ScreenRoom stays = told("room 1 8;screen a 0 0 0 1 0;folk x 9 0 2 0;carry a 12 0 1;step x 11 1;moth 40;seed 1;"
+                + "law pay 2+hour;law ageing 5;law cut 39;");
+            stays.go(5);
+            due("faulty", tell(stays, faulty), -1);
+            due("screen", stays.named(0, letters("a")), 0);
+            due("no other", stays.named(0, letters("b")), -1);
+            due("folk", stays.named(1, letters("x")), 0);
+            due("rows, columns", stays.count(2) * 10 + stays.count(3), 18);
+            due("knots", stays.count(4), 5);
+            due("hour", stays.count(5), 5);
+            due("pay", stays.law(1, 0), 7);
+            due("ageing", stays.law(0, 0), 5);
+            due("cut", stays.law(2, 0), 39);
+            due("moth", stays.holds(0, 1, 0), 3);
+            due("done", stays.count(8), 2 + 3 + 4 + 5 + 6);
+            stays.see(13, 0, 1, 3, true);
+            due("painted", stays.painted(0), 8);
+            stays.go(5);
+            due("38 is below 39", stays.count(6), 0);
+            stays.go(3);
+            due("stepped", stays.folk(0, 2), 3);
+            due("carried", stays.screen(0, 2), 1);
+        }
         about = "3: numbers from the seed on";
         ScreenRoom once = told("screen a 0 0 0 4 0;moth 50;seed 5;");
         once.go(40);

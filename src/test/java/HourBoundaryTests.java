@@ -433,6 +433,8 @@ public final class HourBoundaryTests extends Due {
         due("products ahead of sums", value("1+2*3-8/4"), 5);
         due("from the left", value("9-4-3"), 2);
         due("from the left", value("99/10/2*3"), 12);
+        due("from the left", value("5*3/2"), 7);
+        due("from the left", value("9-4+3"), 8);
         due("in brackets or", value("(1 or 0) and 0"), 0);
         due("in brackets or, behind", value("0 and (0 or 1)"), 0);
         due("in brackets", value("2*(1+(2-(3-4)))"), 8);

@@ -449,6 +449,20 @@ public final class TextBoundaryTests extends Due {
             due("nobody stepped", room.folk(0, 2), 3);
             due("paid by 1", room.folk(0, 4), 20);
         }
+        about = "another TEXT behind a law that is cut off";
+        String[] laws = {"law pay ((1<2", "law pay 1<2<", "law pay not(1+", "law pay " + repeated("(", 8), "law pay 1 or 1 and not 1+2*"};
+        for (String law : laws) {
+            ScreenRoom room = new ScreenRoom();
+            for (int k = 0; k < 2; k++) {
+                due(law, tell(room, law), -1);
+                due("a comparison", tell(room, FOLK + "law pay 1<2;"), 2);
+                due("its law", room.law(1, 0), 1);
+                due(law, tell(room, law), -1);
+                due("eight brackets", tell(room, FOLK + "law pay " + repeated("(", 8) + "7" + repeated(")", 8) + ";"), 2);
+                due("its law", room.law(1, 0), 7);
+                due("its knots", room.count(4), 1);
+            }
+        }
         about = "another TEXT: seed (0) without";
         // From 0 on the first number is 0, from 77 on it isn't.
         String drawn = SCREEN + "law cut 1;";
